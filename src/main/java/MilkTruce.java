@@ -279,7 +279,7 @@ public final class MilkTruce {
         int bells = 0;
         for (int i = 0; i < n; i++) {
             boolean stopped = (stops >> i & 1) == 1;
-            boolean due = trial.someDue();
+            boolean due = trial.sortOfHour(false) == STOP;
             if (due && !stopped) {
                 return NONE;
             }
@@ -330,7 +330,13 @@ public final class MilkTruce {
         }
         Choices most = choicesOf(0);
         Choices least = choicesOf(1);
-        lookAtPairs(most, least, n);
+        int pairs = 0;
+        for (int i = 0; i < most.size(); i++) {
+            for (int j = 0; j < least.size() && pairs < MOST_PAIRS; j++) {
+                pairHours[pairs] = hoursOnAfter(most.at(i), least.at(j), n);
+                pairs++;
+            }
+        }
         int many = 0;
         int first = NONE;
         for (int i = 0; i < most.size(); i++) {
@@ -453,6 +459,9 @@ public final class MilkTruce {
     }
 
     private int hoursOnAfter(int choice, int other, int n) {
+        if (areToOneCell(choice, other)) {
+            return CAN_NOT_BE;
+        }
         trial.become(meadow);
         trial.moveBy(choice);
         trial.moveBy(other);
@@ -505,18 +514,6 @@ public final class MilkTruce {
         Choices own = side == 0 ? choicesOfSide0 : choicesOfSide1;
         own.lookAt(meadow, side);
         return own;
-    }
-
-    private void lookAtPairs(Choices most, Choices least, int n) {
-        int at = 0;
-        for (int i = 0; i < most.size(); i++) {
-            for (int j = 0; j < least.size() && at < MOST_PAIRS; j++) {
-                int one = most.at(i);
-                int other = least.at(j);
-                pairHours[at] = areToOneCell(one, other) ? CAN_NOT_BE : hoursOnAfter(one, other, n);
-                at++;
-            }
-        }
     }
 
     private int hoursOfPair(int i, int j, int ofSide1) {
@@ -610,11 +607,11 @@ public final class MilkTruce {
         }
 
         int sideOf(int cow) {
-            return has(cow) ? sides[cow] : NONE;
+            return cow >= 0 && cow < COWS ? sides[cow] : NONE;
         }
 
         int kindOf(int cow) {
-            return has(cow) ? kinds[cow] : NONE;
+            return cow >= 0 && cow < COWS ? kinds[cow] : NONE;
         }
     }
 
@@ -761,32 +758,27 @@ public final class MilkTruce {
             return isHere(cow) && kind != DRY && fullnesses[cow] >= (kind == TAUGHT ? TAUGHT_DUE_AT : DUE_AT);
         }
 
-        boolean someDue() {
-            for (int cow = 0; cow < COWS; cow++) {
-                if (isDue(cow)) {
-                    return true;
-                }
-            }
-            return false;
-        }
-
-        private boolean someWarns() {
-            for (int cow = 0; cow < COWS; cow++) {
-                if (isHere(cow) && herd.kindOf(cow) == WHITE && fullnesses[cow] == WARNS_AT) {
-                    return true;
-                }
-            }
-            return false;
+        private boolean isWarning(int cow) {
+            return isHere(cow) && herd.kindOf(cow) == WHITE && fullnesses[cow] == WARNS_AT;
         }
 
         int sortOfHour(boolean rung) {
             if (snowing) {
                 return SNOWED;
             }
-            if (rung || someDue()) {
+            if (rung) {
                 return STOP;
             }
-            return someWarns() ? WARNED : WAR;
+            int sort = WAR;
+            for (int cow = 0; cow < COWS; cow++) {
+                if (isDue(cow)) {
+                    return STOP;
+                }
+                if (isWarning(cow)) {
+                    sort = WARNED;
+                }
+            }
+            return sort;
         }
 
         int hourComes(boolean rung) {

@@ -91,6 +91,8 @@ public final class AheadTest {
         grazeIs("of like ones none", y, 0, true, MilkTruce.NONE, MilkTruce.NONE, 6);
         MilkTruce z = Due.pass("MG19K0012K2050K3150");
         grazeIs("the second cow", z, 0, false, 1, 1, 6);
+        MilkTruce first = Due.pass("MG09K1012K2050");
+        grazeIs("the second cow, to cell 0", first, 0, false, 1, 0, 6);
         grazeIs("the third one, of the other side", z, 1, false, 2, 1, 6);
     }
 

@@ -2,6 +2,7 @@ import java.math.BigInteger;
 import java.util.ArrayList;
 import java.util.Arrays;
 import java.util.List;
+import java.util.regex.Pattern;
 
 /** The document once more, written as plainly as it goes and with no care for time: answers to hold others against. */
 final class Oracle {
@@ -143,9 +144,11 @@ final class Oracle {
         return was;
     }
 
+    private static final Pattern PASS = Pattern.compile("M(G[0-9][1-9]|K[0-9][01][0-9][0-3])*");
+
     /** The pass that a text tells; null, if it tells none. */
     static Moment told(String text) {
-        if (!text.matches("M(G[0-9][1-9]|K[0-9][01][0-9][0-3])*")) {
+        if (!PASS.matcher(text).matches()) {
             return null;
         }
         Moment m = new Moment();

@@ -10,6 +10,7 @@ public final class SidesTest {
         chance();
         seed();
         summers();
+        summersThatSnow();
         nothingIsChanged();
         T.end();
     }
@@ -31,6 +32,10 @@ public final class SidesTest {
         // One of them is on the clover: side 1 that stops there, or side 0 that keeps it away;
         // the other one moves to one of 7 cells, or not.
         restsAre("MG29K0000K1150", 2, 16, 13);
+        // Side 0 stays away from the clover that is everywhere else.
+        restsAre("MG19G29G39G49G59G69G79G89G99K0050", 8, 1, 0);
+        // Side 1's second cow goes to the clover on cell 0.
+        restsAre("MG09K1102K2150", 8, 1, 11);
         MilkTruce x = Due.pass(ONE);
         T.due("rests(0, 0)", x.rests(0, 0), MilkTruce.OUTSIDE);
         T.due("rests(9, 1)", x.rests(9, 1), MilkTruce.OUTSIDE);
@@ -104,6 +109,25 @@ public final class SidesTest {
         x.hour(false);
         x.seed(1);
         T.due("pails that came are not counted", x.summers(1), 1000);
+        MilkTruce y = Due.pass("MK0180");
+        y.hour(false);
+        y.seed(1);
+        T.due("nor those of side 1", y.summers(1), 1000);
+    }
+
+    private static void summersThatSnow() {
+        // The cow that is due is milked in the hour, but if it snows.
+        long[] seeds = {2, 10, 36, 6, 5, 3};
+        int[] want = {1006, 1006, 1000, 1000, 1006, 1006};
+        for (int i = 0; i < seeds.length; i++) {
+            MilkTruce x = Due.pass("MK0060");
+            x.seed(seeds[i]);
+            T.due("summers(1) by " + seeds[i], x.summers(1), want[i]);
+        }
+        // A cell is sown ahead of the hour: the cow on it eats in it, and is due in the next.
+        MilkTruce z = Due.pass("MK7150");
+        z.seed(56);
+        T.due("summers(2)", z.summers(2), 994);
     }
 
     private static void nothingIsChanged() {
