@@ -3,9 +3,7 @@ import java.util.function.ToLongFunction;
 /** What is refused changes nothing, nor do the calls in which nothing is changed. */
 public final class ChangesTest {
     private static final Due T = new Due("ChangesTest");
-    private static final int SOME = Integer.MIN_VALUE;
-
-    private final MilkTruce x = Due.pass("MG09G13K0050K5143K9191");
+    private static final int SOME = Scene.SOME;
 
     public static void main(String[] args) {
         refused();
@@ -13,33 +11,8 @@ public final class ChangesTest {
         T.end();
     }
 
-    private ChangesTest() {
-        x.hour(false);
-        x.sow(2);
-        x.keep(1);
-        x.move(1, 3);
-        x.snow();
-        x.snow();
-        for (int i = 0; i < 6; i++) {
-            x.tell(2, i, false);
-        }
-        x.seed(11);
-        while (x.count(0) < 64) {
-            x.write('K');
-        }
-    }
-
-    /** Answers as wanted (SOME: any), and is as it was, the seed and the row of acts, too. */
     private static void same(String call, int want, ToLongFunction<MilkTruce> asked) {
-        // A new one for each call, for an object is used for 512 calls at most.
-        ChangesTest test = new ChangesTest();
-        MilkTruce x = test.x;
-        String seen = Due.look(x);
-        long got = asked.applyAsLong(x);
-        T.due(call, got, want == SOME ? got : want);
-        T.due(call + " changes nothing", Due.look(x).equals(seen) ? 1 : 0, 1);
-        T.due(call + " leaves the seed", x.seed(11), 11);
-        test.whatIsLeft(call);
+        Scene.same(T, call, want, asked);
     }
 
     private static void refused() {
@@ -100,28 +73,11 @@ public final class ChangesTest {
     }
 
     private static void summers() {
-        ChangesTest test = new ChangesTest();
-        String seen = Due.look(test.x);
-        test.x.summers(30);
-        T.due("summers(30) changes the seed alone", Due.look(test.x).equals(seen) ? 1 : 0, 1);
-        T.due("summers(30) changes the seed", test.x.seed(11) != 11 ? 1 : 0, 1);
-        test.whatIsLeft("summers(30)");
-    }
-
-    /** The row of acts, what was kept, and the letters of the text are as they were. */
-    private void whatIsLeft(String call) {
-        int[] cells = {0, 5, 5, 3, 3};
-        for (int left = 4; left >= 1; left--) {
-            T.due(call + ": undo()", x.undo(), left);
-            T.due(call + ": the cell with " + left + " acts", x.cow(1, 0), cells[left]);
-        }
-        T.due(call + ": clover behind undo", x.clover(2), 0);
-        T.due(call + ": the hour behind undo", x.count(2), 1);
-        T.due(call + ": undo() of the hour", x.undo(), 0);
-        T.due(call + ": full behind undo", x.cow(0, 2), 5);
-        T.due(call + ": again(1)", x.again(1), 1);
-        T.due(call + ": clover kept", x.clover(2), 1);
-        T.due(call + ": cell kept", x.cow(1, 0), 5);
-        T.due(call + ": wipe()", x.wipe(), 64);
+        MilkTruce x = Scene.busy();
+        String seen = Due.look(x);
+        x.summers(30);
+        T.due("summers(30) changes the seed alone", Due.look(x).equals(seen) ? 1 : 0, 1);
+        T.due("summers(30) changes the seed", x.seed(11) != 11 ? 1 : 0, 1);
+        Scene.leaves(T, "summers(30)", x);
     }
 }

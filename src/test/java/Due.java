@@ -49,9 +49,16 @@ final class Due {
 
     /** All that can be looked at of what an object holds, but the seed. */
     static String look(MilkTruce x) {
+        return x.count(8) + " acts " + lookButActs(x);
+    }
+
+    /** The same, but how many acts are in the row. */
+    static String lookButActs(MilkTruce x) {
         StringBuilder seen = new StringBuilder();
         for (int what = 0; what <= 9; what++) {
-            seen.append(x.count(what)).append(' ');
+            if (what != 8) {
+                seen.append(x.count(what)).append(' ');
+            }
         }
         for (int cell = 0; cell <= 9; cell++) {
             seen.append(x.clover(cell)).append(' ');

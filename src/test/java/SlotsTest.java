@@ -21,7 +21,7 @@ public final class SlotsTest {
         T.due("acts", x.count(8), 5);
         T.due("keep(1)", x.keep(1), 2);
         T.due("acts stay by keep", x.count(8), 5);
-        String seen = Due.look(x);
+        String seen = Due.lookButActs(x);
         x.snow();
         x.hour(false);
         x.move(0, 9);
@@ -41,22 +41,7 @@ public final class SlotsTest {
         T.due("pails of side 0 kept", x.count(4), 7);
         T.due("pails of side 1 kept", x.count(5), 6);
         T.due("hours of war kept", x.count(6), 0);
-        // But for the acts all is as it was seen.
-        x.snow();
-        x.snow();
-        x.sow(0);
-        x.sow(0);
-        x.undo();
-        x.undo();
-        x.hour(false);
-        x.hour(false);
-        x.hour(false);
-        T.due("as many acts as were", x.count(8), 5);
-        x.undo();
-        x.undo();
-        x.undo();
-        T.due("the hour then", x.count(2), 2);
-        T.due("it looks the same", Due.look(x).substring(20).equals(seen.substring(20)) ? 1 : 0, 1);
+        T.due("but for the acts all is as it was seen", Due.lookButActs(x).equals(seen) ? 1 : 0, 1);
     }
 
     private static void twoSlots() {
