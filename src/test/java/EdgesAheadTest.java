@@ -133,6 +133,9 @@ public final class EdgesAheadTest {
         // Two cows to one cell, or one cow to two cells: the least cow first.
         grazeIs("MG69G79K0050K1050", 0, 8, false, new int[] {0, 6, 6});
         grazeIs("MG69K0002K1050K2050", 0, 8, false, new int[] {1, 6, 6});
+        // A later cow to the first cell.
+        grazeIs("MG09K1002K2050", 0, 8, false, new int[] {1, 0, 6});
+        grazeIs("MG09K1002K2002K3002K4002K5002K6050", 0, 8, false, new int[] {5, 0, 6});
     }
 
     private static void grazeOfSixCows() {
@@ -141,6 +144,11 @@ public final class EdgesAheadTest {
         grazeIs(letters, 1, 8, false, new int[] {1, 9, 6});
         grazeIs(letters, 0, 8, true, new int[] {NONE, NONE, 8});
         grazeIs(letters, 1, 1, false, new int[] {NONE, NONE, 1});
+        MilkTruce x = Due.pass(letters);
+        for (int i = 0; i < 30; i++) {
+            T.due("asked " + i + " times before: cow of side 0", x.graze(0, 8, false, 0), 0);
+            T.due("asked " + i + " times before: cow of side 1", x.graze(1, 8, false, 0), 1);
+        }
     }
 
     private static void grazeOfOneHour() {

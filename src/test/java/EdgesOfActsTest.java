@@ -28,6 +28,7 @@ public final class EdgesOfActsTest {
         wentOnTwice();
         rowIsEmptyBehindAgain();
         keptOfNoCows();
+        keptIsAllOfThem();
         countsAtTheirLeast();
         countsAtTheirMost();
         T.end();
@@ -396,6 +397,33 @@ public final class EdgesOfActsTest {
         T.due("again(1)", x.again(1), 1);
         T.due("snow of slot 1", x.count(3), 1);
         T.due("cows", x.count(1), 0);
+    }
+
+    /** "SLOTS 0 to 1 keep CLOVER, COWS, SNOW, PAILS, HOURS" */
+    private static void keptIsAllOfThem() {
+        for (int slot = 0; slot <= 1; slot++) {
+            MilkTruce x = Due.pass("MG09K0060K1170");
+            x.hour(false);
+            x.hour(false);
+            x.move(1, 3);
+            x.snow();
+            x.keep(slot);
+            String seen = Due.lookButActs(x);
+            x.snow();
+            x.move(0, 9);
+            x.move(1, 0);
+            for (int i = 0; i < 9; i++) {
+                x.hour(i == 4);
+                x.sow(i);
+            }
+            T.due("much is other than kept", Due.lookButActs(x).equals(seen) ? 1 : 0, 0);
+            T.due("again(" + slot + ")", x.again(slot), 2);
+            T.due("all is as kept in " + slot, Due.lookButActs(x).equals(seen) ? 1 : 0, 1);
+            T.due("hours of war as kept in " + slot, x.count(6), 1);
+            T.due("pails of side 0 as kept in " + slot, x.count(4), 6);
+            T.due("pails of side 1 as kept in " + slot, x.count(5), 7);
+            T.due("snow as kept in " + slot, x.count(3), 1);
+        }
     }
 
     private static void countsAre(String when, MilkTruce x, int[] want) {

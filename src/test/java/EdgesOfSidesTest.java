@@ -253,6 +253,10 @@ public final class EdgesOfSidesTest {
                 int cells = 10 - one - other;
                 int pairs = (one * cells + 1) * (other * cells + 1) - one * other * cells;
                 restsAre(cowsOfSides(one, other), 8, pairs, 0);
+                MilkTruce x = Due.pass(cowsOfSides(one, other));
+                x.rests(1, 0);
+                x.rests(1, 1);
+                T.due(one + " and " + other + " cows, asked before: rests(1, 0)", x.rests(1, 0), pairs);
             }
         }
     }
@@ -275,6 +279,9 @@ public final class EdgesOfSidesTest {
         restsAre("MG09K1050", 8, 9, 0);
         restsAre("MG09K0050", 8, 9, 2000);
         restsAre("MG09K1150", 8, 1, 1);
+        // None alone is best: all other cells have clover, or the own one has.
+        restsAre("MG19G29G39G49G59G69G79G89G99K0050", 8, 1, 0);
+        restsAre("MG09K0150", 8, 1, 0);
     }
 
     private static void restsThatAreNone() {
