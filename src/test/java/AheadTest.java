@@ -1,7 +1,7 @@
 /** Promises 13 to 19: what is ahead. Nothing is changed by it. */
 public final class AheadTest {
     private static final Due T = new Due("AheadTest");
-    /** One cow that stops the hours 1 and 4 of the first 8, milked 7 and 6. */
+    /** One cow that stops HOUR 2 and HOUR 5 from now on, milked 7 and 6. */
     private static final String ONE = "MG09K0050";
 
     public static void main(String[] args) {
@@ -87,7 +87,7 @@ public final class AheadTest {
         MilkTruce x = Due.pass("MG39G79K8050K9050");
         grazeIs("the least cow, the least cell", x, 0, false, 0, 3, 6);
         MilkTruce y = Due.pass("MG89G79K8050K7050");
-        // Both stop the hours 1 and 4: that one is gone helps nothing.
+        // Both stop HOUR 2 and HOUR 5: that one is gone helps nothing.
         grazeIs("of like ones none", y, 0, true, MilkTruce.NONE, MilkTruce.NONE, 6);
         MilkTruce z = Due.pass("MG19K0012K2050K3150");
         grazeIs("the second cow", z, 0, false, 1, 1, 6);

@@ -2,9 +2,9 @@
 public final class EdgesAheadTest {
     private static final Due T = new Due("EdgesAheadTest");
     private static final int NONE = MilkTruce.NONE, OUTSIDE = MilkTruce.OUTSIDE;
-    /** One cow that stops the hours 1 and 4 of the first 8. */
+    /** One cow that stops HOUR 2 and HOUR 5 from now on. */
     private static final String ONE = "MG09K0050";
-    /** One cow that stops the hours 3 and 7 of the first 8. */
+    /** One cow that stops HOUR 4 and HOUR 8 from now on. */
     private static final String LATE = "MG09K0010";
     /** Five on the cells 1 to 5, none of which ever is due: only cow 5, on cell 0, can stop an hour. */
     private static final String LAST_OF_SIX = "K1002K2002K3002K4002K5002K0050";
@@ -65,7 +65,7 @@ public final class EdgesAheadTest {
             Scene.answers(T, "M", "on(" + n + ")", n, x -> x.on(hours));
             Scene.answers(T, "MK0053", "on(" + n + ")", 0, x -> x.on(hours));
         }
-        // One stops hour 0, the other the hours 3 and 7.
+        // One stops HOUR 1, the other HOUR 4 and HOUR 8.
         Scene.answers(T, "MG99K0060K9100", "on(8)", 5, x -> x.on(8));
     }
 
@@ -194,7 +194,7 @@ public final class EdgesAheadTest {
 
     /** "on any CELLS, as far as they may have more" */
     private static void fewestWhereCloverIsNine() {
-        // With 10 clover it would stop in hour 7; with 9 it does in hour 8.
+        // With 10 clover it would stop in HOUR 7; with 9 it does in HOUR 8.
         fewestIs("MG09K0010", 7, NONE, NONE);
         fewestIs("MG08K0010", 7, NONE, NONE);
         fewestIs("MG07K0010", 7, NONE, NONE);
@@ -288,7 +288,7 @@ public final class EdgesAheadTest {
         shareIs("MG09G19K0050K1150", 1, 5, 1, 1);
         // Four stop the same two hours: 2 of 4.
         shareIs("MG09G19G29G39K0050K1150K2050K3050", 3, 8, 1, 2);
-        // Three stop hour 1, one of them hour 4, too: 1 of 3, and 1.
+        // Three stop HOUR 2, one of them HOUR 5, too: 1 of 3, and 1.
         shareIs("MG09G21G31K0050K2050K3050", 0, 8, 4, 3);
         shareIs("MG09G21G31K0050K2050K3050", 1, 8, 1, 3);
     }

@@ -4,9 +4,9 @@ import java.math.BigInteger;
 public final class EdgesOfSidesTest {
     private static final Due T = new Due("EdgesOfSidesTest");
     private static final int NONE = MilkTruce.NONE, OUTSIDE = MilkTruce.OUTSIDE, FULL = MilkTruce.FULL;
-    /** One cow that stops the hours 1 and 4 of the first 8. */
+    /** One cow that stops HOUR 2 and HOUR 5 from now on. */
     private static final String ONE = "MG09K0050";
-    /** One cow that stops the hours 3 and 7 of the first 8. */
+    /** One cow that stops HOUR 4 and HOUR 8 from now on. */
     private static final String LATE = "MG09K0010";
     private static final int ALL = 1023;
 
@@ -123,7 +123,7 @@ public final class EdgesOfSidesTest {
             x.tell(0, hour, false);
             T.due("of one clover, not due in hour " + hour, x.full(0), ALL - want[hour]);
         }
-        // 9 clover: 1 full it is due in the hours 3 and 7, and in 7 from 0, 6 to 9 full, too.
+        // 9 clover: 1 full it is due in the hours 3 and 7, counted from 0 on, and in 7 from 0, 6 to 9 full, too.
         MilkTruce late = Due.pass(LATE);
         late.tell(0, 7, true);
         late.tell(0, 3, true);
@@ -411,7 +411,7 @@ public final class EdgesOfSidesTest {
 
     /** "(if it may)" */
     private static void summersSowNineAtMost() {
-        // Cell 0 is sown in the first hour alone. With 10 clover it would be milked in hour 7 of 7, too.
+        // Cell 0 is sown in the first hour alone. With 10 clover it would be milked in HOUR 7 of 7, too.
         for (long seed : new long[] {2, 29}) {
             summersAre("MG09K0010", seed, 7, 1007);
             summersAre("MG08K0010", seed, 7, 1007);

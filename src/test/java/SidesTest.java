@@ -1,7 +1,7 @@
 /** Promises 24 to 27: two sides at rest, snow by chance, summers by a seed. */
 public final class SidesTest {
     private static final Due T = new Due("SidesTest");
-    /** One cow that stops the hours 1 and 4 of the first 8. */
+    /** One cow that stops HOUR 2 and HOUR 5 from now on. */
     private static final String ONE = "MG09K0050";
 
     public static void main(String[] args) {

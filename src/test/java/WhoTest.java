@@ -1,7 +1,7 @@
 /** Promises 20 to 23: who rang, what was due. */
 public final class WhoTest {
     private static final Due T = new Due("WhoTest");
-    /** One cow that stops the hours 1 and 4 of the first 8. */
+    /** One cow that stops HOUR 2 and HOUR 5 from now on. */
     private static final String ONE = "MG09K0050";
 
     public static void main(String[] args) {
@@ -22,7 +22,7 @@ public final class WhoTest {
         T.due("rang(5, 19)", x.rang(5, 19), 1);
         T.due("rang(5, 31)", x.rang(5, 31), 13);
         T.due("rang(8, 255)", x.rang(8, 255), 237);
-        T.due("rang(5, 2): hour 4 did not stop", x.rang(5, 2), MilkTruce.NONE);
+        T.due("rang(5, 2): HOUR 5 did not stop", x.rang(5, 2), MilkTruce.NONE);
         T.due("rang(1, 0)", x.rang(1, 0), 0);
         T.due("rang(1, 1)", x.rang(1, 1), 1);
         T.due("rang(2, 0)", x.rang(2, 0), MilkTruce.NONE);
@@ -73,7 +73,7 @@ public final class WhoTest {
         MilkTruce x = Due.pass(ONE);
         T.due("full(0), nothing told", x.full(0), 1023);
         x.tell(0, 1, true);
-        // 4 or 5 full it is due in hour 1; 6 and more, it is milked in hour 0.
+        // HOURS of WAS DUE count from 0 on. 4 or 5 full it is due in hour 1; 6 and more, it is milked in hour 0.
         T.due("full(0), due in hour 1", x.full(0), 48);
         x.tell(0, 0, false);
         T.due("full(0), and not in hour 0", x.full(0), 48);
